@@ -466,22 +466,18 @@ public final class FailBadge {
                     to++;
                 }
             } else if (first >= '0' && first <= '9') {
-                advanceOverNumber();
+                sort = NUMBER;
+                number = first - '0';
+                while (to < length && bytes[to] >= '0' && bytes[to] <= '9') {
+                    // Of too many digits no number is made, so that it can't go round.
+                    number = to - from < MOST_DIGITS ? number * 10 + bytes[to] - '0' : NONE;
+                    to++;
+                }
             } else if ((first == '<' || first == '>') && to < length && bytes[to] == '=') {
                 sort = first == '<' ? AT_MOST : AT_LEAST;
                 to++;
             } else {
                 sort = first;
-            }
-        }
-
-        private void advanceOverNumber() {
-            sort = NUMBER;
-            number = bytes[from] - '0';
-            while (to < length && bytes[to] >= '0' && bytes[to] <= '9') {
-                // Of too many digits no number is made, so that it can't go round.
-                number = to - from < MOST_DIGITS ? number * 10 + bytes[to] - '0' : NONE;
-                to++;
             }
         }
 
@@ -816,9 +812,19 @@ public final class FailBadge {
                     return tape.refuse(Tape.TOO_MANY);
                 }
                 tape.advance();
-                if (!readClause()) {
+                sums[clause] = size;
+                if (!readSum()) {
                     return false;
                 }
+                tests[clause] = size;
+                if (tape.among(IF) != NONE) {
+                    tape.advance();
+                    if (!readTest(0)) {
+                        return false;
+                    }
+                }
+                clauses = clause + 1;
+                sums[clauses] = size;
                 if (tape.sort == Tape.END) {
                     return true;
                 }
@@ -828,23 +834,6 @@ public final class FailBadge {
                 tape.advance();
             }
             return false;
-        }
-
-        private boolean readClause() {
-            sums[clauses] = size;
-            if (!readSum()) {
-                return false;
-            }
-            tests[clauses] = size;
-            if (tape.among(IF) != NONE) {
-                tape.advance();
-                if (!readTest(0)) {
-                    return false;
-                }
-            }
-            clauses++;
-            sums[clauses] = size;
-            return true;
         }
 
         /** FACTS joined by and, and these by or: and binds first. */
@@ -1102,13 +1091,11 @@ public final class FailBadge {
 
         /** How many other SCOUTS have the BADGE of a KIND. */
         int othersWith(int scout, int kind) {
-            int others = 0;
+            int holders = 0;
             for (int other = 0; other < MOST_SCOUTS; other++) {
-                if (other != scout && hasBadge(other, kind)) {
-                    others++;
-                }
+                holders += badges[other] >> kind & 1;
             }
-            return others;
+            return holders - (badges[scout] >> kind & 1);
         }
     }
 
@@ -1355,7 +1342,7 @@ public final class FailBadge {
         private void fillMatched(Moment now) {
             findAble(now);
             int scouts = now.camp.scouts;
-            Arrays.fill(matched, scouts * SETS, (scouts + 1) * SETS, 0);
+            Arrays.fill(matched, 0);
             for (int scout = scouts - 1; scout >= 0; scout--) {
                 for (int taken = 0; taken < SETS; taken++) {
                     matched[scout * SETS + taken] = mostFrom(scout, taken);
