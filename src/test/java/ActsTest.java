@@ -178,6 +178,10 @@ public final class ActsTest {
         d.attempt(2, 2);
         d.cut(1, 4);
         due("others", told(d, "4 and others = 2"), 4);
+        FailBadge own = six();
+        own.attempt(1, 3);
+        told(own, "3 and scout = 1 and others = 0 and badge = 1");
+        due("one's own does not count", own.scout(1, 2), 2);
         FailBadge e = six();
         e.attempt(1, 5);
         Checks.rule(e, "try badge * hard + hard % 2");

@@ -190,6 +190,9 @@ public final class AskTest {
         due("1 in ten", c.leastLearn(10), 1);
         due("none in one", c.leastLearn(1), -2);
         due("n 60", c.leastLearn(60), 1);
+        FailBadge far = ruled("camp 1 0;kind 30;scout", "try 1");
+        due("it would take 10", far.leastLearn(4), -2);
+        due("8 in five", far.leastLearn(5), 8);
         FailBadge d = ruled("camp 1 0;kind 9;scout;scout;can 0 0 9", "try 1");
         due("each scout", d.leastLearn(4), 3);
     }

@@ -123,6 +123,7 @@ public final class NotesTest {
         b.force(0);
         due("no draws", b.camps(10, 60, 0, 0), 600);
         due("no draws", b.camps(10, 60, 0, 1), 0);
+        due("one day", b.camps(1, 1, 0, 0), 1);
         due("m 0", b.camps(0, 1, 0, 0), -1);
         due("m 11", b.camps(11, 1, 0, 0), -1);
         due("n 0", b.camps(1, 0, 0, 0), -1);

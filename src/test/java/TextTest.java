@@ -11,6 +11,7 @@ public final class TextTest {
         rulesThatAreRight();
         ruleFaults();
         ruleLimits();
+        bytesThatWereCutOff();
         sixRules();
         force();
         CHECKS.close();
@@ -210,6 +211,8 @@ public final class TextTest {
         wrongRule("try", 3, 0);
         wrongRule("try ", 4, 0);
         wrongRule("trys 1", 0, 0);
+        wrongRule("tryz 1", 0, 0);
+        wrongRule("try 1 if dayz = 1", 9, 0);
         wrongRule("camp 0 0", 0, 0);
         wrongRule("try x", 4, 0);
         wrongRule("try not", 4, 0);
@@ -278,6 +281,19 @@ public final class TextTest {
         due("rule of " + text, Checks.rule(b, text), Checks.fault(place, code));
         due("no rule by it", b.count(5), 0);
         due("tape behind a fault", b.count(14), 0);
+    }
+
+    /** What was fed, but cut off by end, is no part of the last token. */
+    private static void bytesThatWereCutOff() {
+        String[] texts = {"try 1 if 2 <=3", "trys 1", "try 1 if  1=1", "try 1 if calm = 1234567"};
+        int[] lengths = {12, 3, 9, 17};
+        int[] answers = {Checks.fault(12, 0), Checks.fault(3, 0), Checks.fault(9, 0), 0};
+        for (int i = 0; i < texts.length; i++) {
+            FailBadge b = new FailBadge();
+            Checks.tell(b, texts[i]);
+            due("end", b.end(lengths[i]), lengths[i]);
+            due(texts[i] + " cut to " + lengths[i], b.rule(), answers[i]);
+        }
     }
 
     private static void sixRules() {
