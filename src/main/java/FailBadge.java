@@ -1159,18 +1159,19 @@ public final class FailBadge {
             System.arraycopy(other.has, 0, has, 0, MOST);
         }
 
+        /** The last DAY of which anything was told; NONE without any. */
         int lastDay() {
-            int latest = 0;
+            int latest = NONE;
             for (int i = 0; i < size; i++) {
                 latest = Math.max(latest, days[i]);
             }
             return latest;
         }
 
-        /** Whether all that was told of what is behind as many DAYS as have gone is so. */
-        boolean agreeWith(Standing standing) {
+        /** Whether all that was told of what is behind this DAY is so in the standing. */
+        boolean agreeBehind(int day, Standing standing) {
             for (int i = 0; i < size; i++) {
-                if (days[i] == standing.day
+                if (days[i] == day
                         && standing.hasBadge(scouts[i], kinds[i]) != (has[i] == 1)) {
                     return false;
                 }
@@ -1694,22 +1695,22 @@ public final class FailBadge {
             }
             course.startAsTold(now.camp, which < 0 ? null : rules[which]);
             int last = now.notes.lastDay();
-            for (int day = 0; day < last; day++) {
-                if (!now.notes.agreeWith(course.at)) {
+            for (int day = 0; day <= last; day++) {
+                course.live();
+                if (!now.notes.agreeBehind(day, course.at)) {
                     return false;
                 }
-                course.live();
             }
-            return now.notes.agreeWith(course.at);
+            return true;
         }
 
-        /** LOOK: the SCOUT, or how many. */
+        /** LOOK: the SCOUT, or how many; behind DAY n, which is the first if n is 0. */
         int bestToLookAt(Moment now, Rule[] rules, int n, boolean isScoutAsked) {
             int number = 0;
             for (int which = NONE; which < rules.length; which++) {
                 if (isAllowed(now, rules, which)) {
                     course.startAsTold(now.camp, which < 0 ? null : rules[which]);
-                    course.liveFor(n);
+                    course.liveFor(n + 1);
                     System.arraycopy(course.at.badges, 0, seen, number * MOST_SCOUTS, MOST_SCOUTS);
                     number++;
                 }

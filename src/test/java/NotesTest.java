@@ -5,6 +5,7 @@ public final class NotesTest {
     public static void main(String[] args) {
         note();
         ruled();
+        behindTheDay();
         look();
         seed();
         camps();
@@ -62,45 +63,75 @@ public final class NotesTest {
         due("none first", b.ruled(1), -1);
         due("what 2", b.ruled(2), -3);
         due("what -1", b.ruled(-1), -3);
-        b.note(1, 0, 1, 1);
+        b.note(0, 0, 1, 1);
         due("none and the last", b.ruled(0), 2);
         due("none", b.ruled(1), -1);
-        b.note(1, 1, 0, 1);
+        b.note(0, 1, 0, 1);
         due("the last", b.ruled(0), 1);
         due("the last", b.ruled(1), 2);
         b.note(0, 0, 0, 1);
-        due("no badges at the begin", b.ruled(0), 0);
-        due("no badges at the begin", b.ruled(1), -2);
+        due("nor is that one so", b.ruled(0), 0);
+        due("nor is that one so", b.ruled(1), -2);
         // From the begin on, as the text told it, whatever has been done since.
         FailBadge c = four();
         c.force(1);
         c.day();
         c.attempt(0, 0);
         c.teach(1, 0, 2);
-        c.note(1, 0, 0, 1);
+        c.note(0, 0, 0, 1);
         due("rule 0", c.ruled(0), 1);
         due("rule 0", c.ruled(1), 0);
         FailBadge d = four();
         d.note(60, 0, 2, 1);
         d.note(0, 0, 2, 0);
-        due("behind sixty days: none, too, but not rule 1, whose scout learns it", d.ruled(0), 1);
-        due("behind sixty days", d.ruled(1), -1);
+        due("behind day 60: none, too, but not rule 1, whose scout learns it", d.ruled(0), 1);
+        due("behind day 60", d.ruled(1), -1);
+    }
+
+    /** The n-th DAY is the one whose number is n, and behind it is when it has gone. */
+    private static void behindTheDay() {
+        FailBadge b = four();
+        // By rule 1 scout 0 fails kind 2 on days 0 to 9, and it comes off on day 10.
+        b.note(9, 0, 2, 1);
+        b.note(10, 0, 2, 0);
+        due("lost on day 10", b.ruled(0), 1);
+        due("lost on day 10", b.ruled(1), 1);
+        FailBadge first = told("camp 1 0;kind 5;scout");
+        first.note(0, 0, 0, 0);
+        due("has it behind day 0", first.ruled(0), 0);
+        due("has it behind day 0", first.ruled(1), -2);
+        first.note(-1, 0, 0, 0);
+        first.note(0, 0, 0, 1);
+        due("has it behind day 0", first.ruled(0), 1);
+        Checks.rule(first, "try 0");
+        due("rule 0 never tries", first.ruled(0), 1);
+        first.note(-1, 0, 0, 0);
+        due("these part by day 0", first.look(0, 1), 1);
+        FailBadge last = told("camp 1 0;kind 5;scout");
+        Checks.rule(last, "try 0");
+        Checks.rule(last, "try 1 if day = 60");
+        Checks.rule(last, "try 1 if day = 61");
+        last.note(59, 0, 0, 0);
+        due("not yet behind day 59", last.ruled(0), 3);
+        due("alike behind day 59", last.look(59, 1), 3);
+        due("one is unlike behind day 60", last.look(60, 1), 2);
+        last.note(60, 0, 0, 1);
+        due("tried on day 60", last.ruled(0), 1);
+        due("tried on day 60", last.ruled(1), 1);
     }
 
     private static void look() {
         FailBadge b = four();
-        // Behind day 0 all are alike; behind 1 scout 0 has {1}, {0}, {2}, {1}: two alike;
-        // scout 1 has {1}, {0}, {}, {0}: two alike.
+        // Behind day 0 scout 0 has {1}, {0}, {2}, {1}: two alike; scout 1 has {1}, {0}, {}, {0}:
+        // two alike, too.
         due("look", b.look(0, 0), 0);
-        due("look", b.look(0, 1), 4);
-        due("look", b.look(1, 0), 0);
-        due("look", b.look(1, 1), 2);
-        b.note(1, 0, 1, 1);
-        due("these two part by scout 1", b.look(1, 0), 1);
-        due("look", b.look(1, 1), 1);
+        due("look", b.look(0, 1), 2);
         b.note(0, 0, 1, 1);
-        due("no rule is so", b.look(1, 0), -2);
-        due("no rule is so", b.look(1, 1), -2);
+        due("these two part by scout 1", b.look(0, 0), 1);
+        due("look", b.look(0, 1), 1);
+        b.note(0, 0, 1, 0);
+        due("no rule is so", b.look(0, 0), -2);
+        due("no rule is so", b.look(0, 1), -2);
         due("n 61", b.look(61, 0), -1);
         due("n -1", b.look(-1, 0), -1);
         due("what 2", b.look(0, 2), -1);

@@ -905,7 +905,7 @@ final class Oracle {
             boolean good = true;
             for (Note note : notes) {
                 State a = begin();
-                for (int i = 0; i < note.n; i++) {
+                for (int i = 0; i <= note.n; i++) {
                     live(a, r < 0 ? null : rules.get(r), new How());
                 }
                 good &= a.badge[note.scout][note.kind] == (note.has == 1);
@@ -936,7 +936,7 @@ final class Oracle {
             Map<Integer, Integer> groups = new HashMap<>();
             for (int r : all) {
                 State a = begin();
-                for (int i = 0; i < n; i++) {
+                for (int i = 0; i <= n; i++) {
                     live(a, r < 0 ? null : rules.get(r), new How());
                 }
                 groups.merge(a.bits(s), 1, Integer::sum);
