@@ -319,6 +319,10 @@ public final class AskTest {
         FailBadge f = ruled("camp 1 0;kind 30;kind 30;scout;can 0 0 1", rule);
         due("all learnt at the begin of the 60th", f.ring(0), 59);
         due("the same a day later", f.ring(1), 1);
+        // Skill 33 with no badge is not skill 1 with none, whatever stands beside it.
+        FailBadge g = ruled("camp 4 0;kind 30;kind 30;scout;can 0 0 1;can 0 1 1", "try kind");
+        due("learnt on days 0 to 7, lost on day 8", g.ring(0), 9);
+        due("ring", g.ring(1), 1);
     }
 
     private static void withoutScoutsOrKinds() {

@@ -12,6 +12,7 @@ public final class TextTest {
         ruleFaults();
         ruleLimits();
         bytesThatWereCutOff();
+        whenTheTapeIsFull();
         sixRules();
         force();
         CHECKS.close();
@@ -294,6 +295,21 @@ public final class TextTest {
             due("end", b.end(lengths[i]), lengths[i]);
             due(texts[i] + " cut to " + lengths[i], b.rule(), answers[i]);
         }
+    }
+
+    /** A word, a number, a sign that are the last of 400 bytes. */
+    private static void whenTheTapeIsFull() {
+        wrongCamp("camp 0 0;" + " ".repeat(387) + "scou", 396, 0);
+        wrongCamp("camp 0 0;" + " ".repeat(387) + "kind", 400, 0);
+        wrongCamp("camp 0 " + " ".repeat(391) + "10", 398, 1);
+        wrongCamp("camp 0 0" + " ".repeat(391) + ";", 400, 0);
+        right("camp 0 0;" + " ".repeat(386) + "scout", 1);
+        right("camp 0 " + " ".repeat(392) + "9", 0);
+        wrongRule("try 1 if 1" + " ".repeat(389) + "<", 400, 0);
+        wrongRule("try 1 if 1" + " ".repeat(388) + ">=", 400, 0);
+        wrongRule("try 1 " + " ".repeat(392) + "no", 398, 0);
+        wrongRule("try " + " ".repeat(393) + "pas", 397, 0);
+        due("rule", Checks.rule(new FailBadge(), "try " + " ".repeat(393) + "day"), 0);
     }
 
     private static void sixRules() {
