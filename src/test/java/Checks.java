@@ -31,6 +31,45 @@ final class Checks {
         return badge.rule();
     }
 
+    /** A new object whose CAMP is told. */
+    static FailBadge company(String camp) {
+        FailBadge badge = new FailBadge();
+        if (camp(badge, camp) < 0) {
+            throw new IllegalStateException("a test's camp has a fault: " + camp);
+        }
+        return badge;
+    }
+
+    /** A new object whose CAMP is told, and a RULE that is IN FORCE. */
+    static FailBadge company(String camp, String rule) {
+        FailBadge badge = company(camp);
+        if (rule(badge, rule) != 0) {
+            throw new IllegalStateException("a test's rule has a fault: " + rule);
+        }
+        badge.force(0);
+        return badge;
+    }
+
+    /** All that can be seen of an object without asking for what is to come. */
+    static String everything(FailBadge badge) {
+        StringBuilder all = new StringBuilder();
+        for (int what = 0; what < 15; what++) {
+            all.append(badge.count(what)).append(' ');
+        }
+        for (int scout = 0; scout < badge.count(4); scout++) {
+            for (int what = 0; what < 5; what++) {
+                all.append(badge.scout(scout, what)).append(' ');
+            }
+            for (int kind = 0; kind < badge.count(3); kind++) {
+                all.append(badge.skill(scout, kind)).append(' ');
+            }
+        }
+        for (int kind = 0; kind < badge.count(3); kind++) {
+            all.append(badge.hard(kind)).append(' ');
+        }
+        return all.append(badge.ruled(0)).append(' ').append(badge.ruled(1)).toString();
+    }
+
     static int four(String text, int at) {
         int all = 0;
         for (int i = at; i < at + 4; i++) {

@@ -1,0 +1,108 @@
+import java.io.IOException;
+import java.nio.file.Files;
+import java.nio.file.Path;
+
+/**
+ * The document's sentences, each with a test of its own. What is quoted must stand in the document
+ * where it is said to stand, something must be asked for each quote, and no word of the terms and
+ * of promises 1 to 36 may be left that nothing quotes.
+ */
+final class Sentences {
+    private static final Path DOCUMENT = Path.of("../shared/DOC.md");
+    private static final int PROMISES = 36;
+
+    private final Checks checks = new Checks();
+    private final String document;
+    private final boolean[] isQuoted;
+    private String quote = "";
+    private int askedForIt = 1;
+
+    Sentences() throws IOException {
+        document = Files.readString(DOCUMENT);
+        isQuoted = new boolean[document.length()];
+        int from = document.indexOf("\n## Terms\n");
+        int to = document.indexOf("\n## Not promised\n");
+        checks.due("the document has terms and promises", from >= 0 && to > from ? 1 : 0, 1);
+        pass(0, from);
+        pass(to, document.length());
+        for (String sign : new String[] {"## Terms", "```text", "==== II.", "==== III."}) {
+            for (int at = from; at >= 0; at = document.indexOf(sign, at + 1)) {
+                pass(at, document.startsWith(sign, at) ? at + sign.length() : at);
+            }
+        }
+        for (int promise = 1; promise <= PROMISES; promise++) {
+            int head = document.indexOf("\n## Promise " + promise + ":");
+            // What a promise says stands behind its name and the call.
+            pass(head, document.indexOf("`: ", head) + 3);
+        }
+    }
+
+    private void pass(int from, int to) {
+        for (int i = Math.max(0, from); i < to; i++) {
+            isQuoted[i] = true;
+        }
+    }
+
+    /** What follows tests a sentence of the terms. */
+    void terms(String words) {
+        begin("terms: ", words, document.indexOf("\n## Terms\n"),
+                document.indexOf("\n## Promise 1:"));
+    }
+
+    /** What follows tests a sentence of a promise. */
+    void promise(int number, String words) {
+        int from = document.indexOf("\n## Promise " + number + ":");
+        begin("promise " + number + ": ", words, from, document.indexOf("\n## ", from + 1));
+    }
+
+    private void begin(String where, String words, int from, int to) {
+        endOfQuote();
+        quote = where + words;
+        askedForIt = 0;
+        int at = document.indexOf(words, from);
+        if (at < 0 || at + words.length() > to) {
+            checks.due("the document does not say, " + quote, 0, 1);
+            return;
+        }
+        // Of the same words the first that no test has quoted yet are meant.
+        while (isQuoted[at] && document.indexOf(words, at + 1) >= 0
+                && document.indexOf(words, at + 1) + words.length() <= to) {
+            at = document.indexOf(words, at + 1);
+        }
+        pass(at, at + words.length());
+    }
+
+    private void endOfQuote() {
+        if (askedForIt == 0) {
+            checks.due("nothing is asked for " + quote, 0, 1);
+        }
+    }
+
+    void due(String call, long got, long want) {
+        askedForIt++;
+        checks.due("[" + quote + "] " + call, got, want);
+    }
+
+    /** Nothing may have happened by a call that is refused. */
+    void refused(FailBadge badge, String before, String call, long got, long want) {
+        due(call, got, want);
+        due("all is as it was behind " + call, Checks.everything(badge).equals(before) ? 1 : 0, 1);
+    }
+
+    void close() {
+        endOfQuote();
+        int at = 0;
+        while (at < document.length()) {
+            int to = at;
+            while (to < document.length() && !isQuoted[to]) {
+                to++;
+            }
+            String left = document.substring(at, to);
+            if (left.chars().anyMatch(Character::isLetterOrDigit)) {
+                checks.due("no test quotes: " + left.strip(), 0, 1);
+            }
+            at = to + 1;
+        }
+        checks.close();
+    }
+}
