@@ -18,7 +18,6 @@ public final class AskTest {
         ring();
         withoutScoutsOrKinds();
         beyondTheLastDay();
-        nothingChanges();
         CHECKS.close();
     }
 
@@ -26,21 +25,8 @@ public final class AskTest {
         CHECKS.due(call, got, want);
     }
 
-    private static FailBadge told(String camp) {
-        FailBadge b = new FailBadge();
-        due("camp", Math.min(0, Checks.camp(b, camp)), 0);
-        return b;
-    }
-
-    private static FailBadge ruled(String camp, String rule) {
-        FailBadge b = told(camp);
-        due("rule", Checks.rule(b, rule), 0);
-        b.force(0);
-        return b;
-    }
-
     private static FailBadge two() {
-        return told(ActsTest.TWO);
+        return Checks.company(ActsTest.TWO);
     }
 
     private static void ahead() {
@@ -76,9 +62,9 @@ public final class AskTest {
         due("arm", b.arm(-1), -1);
         // Only when the day is 198 is one tried: the arm is whole at the begin of the 200th.
         String camp = "camp 0 0;kind 9;scout";
-        due("the 200th", ruled(camp, "try 1 if day = 198").arm(0), 199);
-        due("the 201st", ruled(camp, "try 1 if day = 199").arm(0), -2);
-        FailBadge c = told(camp);
+        due("the 200th", Checks.company(camp, "try 1 if day = 198").arm(0), 199);
+        due("the 201st", Checks.company(camp, "try 1 if day = 199").arm(0), -2);
+        FailBadge c = Checks.company(camp);
         c.attempt(0, 0);
         due("this day", c.arm(0), 0);
     }
@@ -93,10 +79,10 @@ public final class AskTest {
         due("what 2", b.off(2), -1);
         due("what -1", b.off(-1), -1);
         String camp = "camp 0 0;kind 0;scout;scout;scout";
-        due("the 200th", ruled(camp, "try 1 if day = 199 and scout > 0").off(0), 199);
-        due("the least", ruled(camp, "try 1 if day = 199 and scout > 0").off(1), 1);
-        due("the 201st", ruled(camp, "try 1 if day = 200").off(0), -2);
-        due("the 201st", ruled(camp, "try 1 if day = 200").off(1), -2);
+        due("the 200th", Checks.company(camp, "try 1 if day = 199 and scout > 0").off(0), 199);
+        due("the least", Checks.company(camp, "try 1 if day = 199 and scout > 0").off(1), 1);
+        due("the 201st", Checks.company(camp, "try 1 if day = 200").off(0), -2);
+        due("the 201st", Checks.company(camp, "try 1 if day = 200").off(1), -2);
     }
 
     private static void cover() {
@@ -105,11 +91,11 @@ public final class AskTest {
         due("cover", b.cover(1), 0b11);
         due("what 2", b.cover(2), -1);
         due("what -1", b.cover(-1), -1);
-        FailBadge c = told("camp 0 0;kind 1;kind 1;kind 1;kind 9;scout;scout;scout;scout;"
+        FailBadge c = Checks.company("camp 0 0;kind 1;kind 1;kind 1;kind 9;scout;scout;scout;scout;"
                 + "can 0 0 1;can 1 0 1;can 1 1 1;can 2 2 1;can 2 1 1;can 3 2 1");
         due("cover", c.cover(0), 2);
         due("{0,2} ahead of {1,2}, {1,3}", c.cover(1), 0b0101);
-        FailBadge d = told("camp 0 0;kind 5;scout");
+        FailBadge d = Checks.company("camp 0 0;kind 5;scout");
         due("nobody can anything", d.cover(0), 0);
         due("nobody can anything", d.cover(1), 0);
     }
@@ -124,14 +110,14 @@ public final class AskTest {
         due("match", b.match(6), -3);
         due("match", b.match(-2), -3);
         // Three who can but two kinds: the first of them has none.
-        FailBadge c = told("camp 0 0;kind 1;kind 1;scout;scout;scout;can 0 0 1;can 0 1 1;"
+        FailBadge c = Checks.company("camp 0 0;kind 1;kind 1;scout;scout;scout;can 0 0 1;can 0 1 1;"
                 + "can 1 0 1;can 2 0 1;can 2 1 1");
         due("match", c.match(-1), 2);
         due("none ahead of kind 0", c.match(0), -1);
         due("match", c.match(1), 0);
         due("match", c.match(2), 1);
         // What one would take first must be left to another who can nothing else.
-        FailBadge d = told("camp 0 0;kind 1;kind 1;scout;scout;can 0 0 1;can 0 1 1;can 1 0 1");
+        FailBadge d = Checks.company("camp 0 0;kind 1;kind 1;scout;scout;can 0 0 1;can 0 1 1;can 1 0 1");
         due("match", d.match(-1), 2);
         due("match", d.match(0), 1);
         due("match", d.match(1), 0);
@@ -146,7 +132,7 @@ public final class AskTest {
         due("the least", b.trust(), 0);
         b.attempt(1, 2);
         due("passed most", b.trust(), 1);
-        due("nobody", told("camp 0 0;kind 0").trust(), -2);
+        due("nobody", Checks.company("camp 0 0;kind 0").trust(), -2);
     }
 
     private static void row() {
@@ -165,12 +151,12 @@ public final class AskTest {
         due("scout 2", b.row(2, 1, 0), -3);
         due("scout -1", b.row(-1, 1, 0), -3);
         // With nothing to win, nothing is tried; a whole arm is kept.
-        FailBadge c = told("camp 0 9;kind 0;kind 5;scout");
+        FailBadge c = Checks.company("camp 0 9;kind 0;kind 5;scout");
         due("row", c.row(0, 4, 0), 0);
         due("nothing", c.row(0, 4, 1), -1);
         due("nothing", c.row(0, 4, 4), -1);
         // One badge in four days is won as late as can be: nothing stands ahead of kind 0.
-        FailBadge d = told("camp 0 0;calm 0;calm 0;calm 9;calm 9;kind 5;scout");
+        FailBadge d = Checks.company("camp 0 0;calm 0;calm 0;calm 9;calm 9;kind 5;scout");
         due("row", d.row(0, 4, 0), 1);
         due("day 1", d.row(0, 4, 1), -1);
         due("day 2", d.row(0, 4, 2), 0);
@@ -184,16 +170,16 @@ public final class AskTest {
         due("least", b.leastLearn(3), 0);
         due("n 0", b.leastLearn(0), -1);
         due("n 61", b.leastLearn(61), -1);
-        FailBadge c = ruled("camp 1 0;kind 9;kind 20;scout", "try 1");
+        FailBadge c = Checks.company("camp 1 0;kind 9;kind 20;scout", "try 1");
         due("9 in two", c.leastLearn(2), 9);
         due("5 in three", c.leastLearn(3), 5);
         due("1 in ten", c.leastLearn(10), 1);
         due("none in one", c.leastLearn(1), -2);
         due("n 60", c.leastLearn(60), 1);
-        FailBadge far = ruled("camp 1 0;kind 30;scout", "try 1");
+        FailBadge far = Checks.company("camp 1 0;kind 30;scout", "try 1");
         due("it would take 10", far.leastLearn(4), -2);
         due("8 in five", far.leastLearn(5), 8);
-        FailBadge d = ruled("camp 1 0;kind 9;scout;scout;can 0 0 9", "try 1");
+        FailBadge d = Checks.company("camp 1 0;kind 9;scout;scout;can 0 0 9", "try 1");
         due("each scout", d.leastLearn(4), 3);
     }
 
@@ -208,7 +194,7 @@ public final class AskTest {
         due("calmest", b.calmest(-1, 0), -1);
         due("calmest", b.calmest(0, 3), -1);
         due("calmest", b.calmest(0, -1), -1);
-        FailBadge c = told("camp 0 0" + ";calm 0".repeat(11) + ";calm 9;kind 9;scout");
+        FailBadge c = Checks.company("camp 0 0" + ";calm 0".repeat(11) + ";calm 9;kind 9;scout");
         due("the twelfth", c.calmest(0, 0), 11);
     }
 
@@ -221,18 +207,18 @@ public final class AskTest {
         due("what 2", b.leftOut(1, 2), -1);
         due("what -1", b.leftOut(1, -1), -1);
         String camp = "camp 0 0;kind 9;kind 0;kind 8;scout;scout";
-        FailBadge c = ruled(camp, "try hard + 1 if kind = 1 or day < 2");
+        FailBadge c = Checks.company(camp, "try hard + 1 if kind = 1 or day < 2");
         due("nothing comes off yet", c.leftOut(2, 0), 0);
         due("nothing comes off yet", c.leftOut(2, 1), 0);
         due("kind 1 comes off then", c.leftOut(3, 0), 1);
         due("kind 1 comes off then", c.leftOut(3, 1), 0b010);
         due("n 30", c.leftOut(30, 1), 0b010);
         // Without the one they would try, they try the next best.
-        FailBadge d = ruled("camp 0 0;kind 0;kind 0;kind 9;scout", "try 3 - kind");
+        FailBadge d = Checks.company("camp 0 0;kind 0;kind 0;kind 9;scout", "try 3 - kind");
         due("both must go", d.leftOut(5, 0), 2);
         due("both must go", d.leftOut(5, 1), 0b011);
         // Of two sets of one the least.
-        FailBadge e = ruled("camp 1 0;kind 1;kind 1;scout", "try badge + 1");
+        FailBadge e = Checks.company("camp 1 0;kind 1;kind 1;scout", "try badge + 1");
         due("set", e.leftOut(1, 1), 0);
         due("what is tried again comes off", e.leftOut(2, 1), 0b11);
     }
@@ -251,15 +237,15 @@ public final class AskTest {
         due("n 21", b.rests(0, 1, 21, 0), -1000);
         due("what 3", b.rests(0, 1, 1, 3), -1000);
         due("what -1", b.rests(0, 1, 1, -1), -1000);
-        FailBadge c = told("camp 0 0;kind 5;kind 0;kind 5;scout;scout;can 1 2 9");
+        FailBadge c = Checks.company("camp 0 0;kind 5;kind 0;kind 5;scout;scout;can 1 2 9");
         due("two for 0, one for 1", c.rests(0, 1, 20, 0), 2);
         due("first", c.rests(0, 1, 20, 1), 0);
         due("second", c.rests(0, 1, 20, 2), 0);
-        due("no kinds", told("camp 0 0;scout;scout").rests(0, 1, 1, 0), 0);
-        due("no kinds", told("camp 0 0;scout;scout").rests(0, 1, 1, 1), -2);
-        due("no kinds", told("camp 0 0;scout;scout").rests(0, 1, 1, 2), -2);
+        due("no kinds", Checks.company("camp 0 0;scout;scout").rests(0, 1, 1, 0), 0);
+        due("no kinds", Checks.company("camp 0 0;scout;scout").rests(0, 1, 1, 1), -2);
+        due("no kinds", Checks.company("camp 0 0;scout;scout").rests(0, 1, 1, 2), -2);
         // What came off ahead of these days does not count, a badge from then does.
-        FailBadge d = told("camp 0 0;kind 0;kind 0;scout;scout");
+        FailBadge d = Checks.company("camp 0 0;kind 0;kind 0;scout;scout");
         d.sham(0, 1);
         d.attempt(0, 1);
         d.sham(0, 0);
@@ -286,7 +272,7 @@ public final class AskTest {
         due("much -1", b.pence(-1, 0), -1);
         due("scout 2", b.pence(1, 2), -1);
         due("scout -1", b.pence(1, -1), -1);
-        FailBadge c = told("camp 0 0;kind 9;scout;scout;scout;scout");
+        FailBadge c = Checks.company("camp 0 0;kind 9;scout;scout;scout;scout");
         c.attempt(1, 0);
         c.attempt(2, 0);
         c.attempt(3, 0);
@@ -305,28 +291,28 @@ public final class AskTest {
         due("what 2", b.ring(2), -1);
         due("what -1", b.ring(-1), -1);
         // A badge won on a day of calm 0 and lost on one of calm 9, with no learning.
-        FailBadge c = ruled("camp 0 0;calm 0;calm 9;calm 9;kind 9;scout", "try 1");
+        FailBadge c = Checks.company("camp 0 0;calm 0;calm 9;calm 9;kind 9;scout", "try 1");
         due("none, badge, none, none: the first is as it is two days later", c.ring(0), 0);
         due("ring", c.ring(1), 2);
         // Badges are lost where skill stays: 40 days of learning, one on which kind 0 comes off.
-        FailBadge d = ruled("camp 1 0;kind 30;kind 30;scout", "try 99 - skill - kind * 20");
+        FailBadge d = Checks.company("camp 1 0;kind 30;kind 30;scout", "try 99 - skill - kind * 20");
         due("ring", d.ring(0), 41);
         due("ring", d.ring(1), 1);
         String rule = "try 60 - skill if skill < 30";
-        FailBadge e = ruled("camp 1 0;kind 30;kind 30;scout", rule);
+        FailBadge e = Checks.company("camp 1 0;kind 30;kind 30;scout", rule);
         due("learns for sixty days", e.ring(0), -2);
         due("learns for sixty days", e.ring(1), -2);
-        FailBadge f = ruled("camp 1 0;kind 30;kind 30;scout;can 0 0 1", rule);
+        FailBadge f = Checks.company("camp 1 0;kind 30;kind 30;scout;can 0 0 1", rule);
         due("all learnt at the begin of the 60th", f.ring(0), 59);
         due("the same a day later", f.ring(1), 1);
         // Skill 33 with no badge is not skill 1 with none, whatever stands beside it.
-        FailBadge g = ruled("camp 4 0;kind 30;kind 30;scout;can 0 0 1;can 0 1 1", "try kind");
+        FailBadge g = Checks.company("camp 4 0;kind 30;kind 30;scout;can 0 0 1;can 0 1 1", "try kind");
         due("learnt on days 0 to 7, lost on day 8", g.ring(0), 9);
         due("ring", g.ring(1), 1);
     }
 
     private static void withoutScoutsOrKinds() {
-        FailBadge b = told("camp 3 4;kind 5");
+        FailBadge b = Checks.company("camp 3 4;kind 5");
         due("day", b.day(), 0);
         due("off", b.off(0), -2);
         due("cover", b.cover(0), 0);
@@ -341,7 +327,7 @@ public final class AskTest {
         due("look", b.look(0, 0), -2);
         due("look", b.look(0, 1), -2);
         due("camps", b.camps(10, 60, 100, 0), 0);
-        FailBadge c = told("camp 3 4;scout");
+        FailBadge c = Checks.company("camp 3 4;scout");
         due("day", c.day(), 0);
         due("can", c.scout(0, 3), 0);
         due("arm", c.arm(0), 1);
@@ -355,68 +341,18 @@ public final class AskTest {
     }
 
     private static void beyondTheLastDay() {
-        FailBadge b = ruled("camp 0 0;kind 1;kind 0;scout", "try 1 if day > 1100 and kind = 1");
+        FailBadge b = Checks.company("camp 0 0;kind 1;kind 0;scout", "try 1 if day > 1100 and kind = 1");
         for (int i = 0; i < 999; i++) {
             b.day();
         }
         due("day", b.day(), -1);
         due("off", b.off(0), 1101);
         due("ahead", b.ahead(0, 100, 2), 0);
-        FailBadge c = ruled("camp 0 0;kind 1;kind 0;scout", "try 1 if day > 1090 and kind = 1");
+        FailBadge c = Checks.company("camp 0 0;kind 1;kind 0;scout", "try 1 if day > 1090 and kind = 1");
         for (int i = 0; i < 999; i++) {
             c.day();
         }
         due("ahead", c.ahead(0, 100, 2), 8);
         due("day", c.count(7), 999);
-    }
-
-    private static void nothingChanges() {
-        FailBadge b = two();
-        Checks.rule(b, "try hard");
-        b.day();
-        b.sham(1, 2);
-        b.note(1, 0, 1, 1);
-        b.seed(5);
-        int[] before = all(b);
-        for (int what = -1; what <= 4; what++) {
-            b.ahead(1, 50, what);
-            b.off(what);
-            b.cover(what);
-            b.match(what);
-            b.row(0, 3, what);
-            b.leftOut(20, what);
-            b.rests(0, 1, 20, what);
-            b.ring(what);
-            b.ruled(what);
-            b.look(30, what);
-            b.camps(3, 30, 50, what);
-            b.scout(0, what);
-        }
-        b.arm(0);
-        b.trust();
-        b.leastLearn(60);
-        b.calmest(0, 1);
-        b.pence(50, 0);
-        int[] after = all(b);
-        for (int i = 0; i < before.length; i++) {
-            due("what is told " + i, after[i], before[i]);
-        }
-    }
-
-    private static int[] all(FailBadge b) {
-        int[] all = new int[15 + 2 * 5 + 2 * 3];
-        int at = 0;
-        for (int what = 0; what < 15; what++) {
-            all[at++] = b.count(what);
-        }
-        for (int scout = 0; scout < 2; scout++) {
-            for (int what = 0; what < 5; what++) {
-                all[at++] = b.scout(scout, what);
-            }
-            for (int kind = 0; kind < 3; kind++) {
-                all[at++] = b.skill(scout, kind);
-            }
-        }
-        return all;
     }
 }

@@ -20,22 +20,9 @@ public final class EdgeTest {
         CHECKS.due(call, got, want);
     }
 
-    private static FailBadge told(String camp) {
-        FailBadge b = new FailBadge();
-        due("camp", Math.min(0, Checks.camp(b, camp)), 0);
-        return b;
-    }
-
-    private static FailBadge ruled(String camp, String rule) {
-        FailBadge b = told(camp);
-        due("rule " + rule, Checks.rule(b, rule), 0);
-        b.force(0);
-        return b;
-    }
-
     /** VALUES are counted for each RULE anew, and six long ones are held. */
     private static void longRulesOneBehindAnother() {
-        FailBadge b = told("camp 0 0;kind 9;kind 9;scout");
+        FailBadge b = Checks.company("camp 0 0;kind 9;kind 9;scout");
         String zeros = "+0".repeat(50);
         for (int i = 0; i < 5; i++) {
             due("long rule", Checks.rule(b, "try 0" + zeros), i);
@@ -58,13 +45,13 @@ public final class EdgeTest {
 
     private static void twelveClauses() {
         String never = "try 1 if 1=2;".repeat(11);
-        FailBadge b = ruled("camp 0 0;kind 9;scout", never + "try 1 if 1=2");
+        FailBadge b = Checks.company("camp 0 0;kind 9;scout", never + "try 1 if 1=2");
         b.day();
         due("0 without one that holds", b.scout(0, 2), 0);
-        FailBadge c = ruled("camp 0 0;kind 9;scout", never + "try 1 if 1=1");
+        FailBadge c = Checks.company("camp 0 0;kind 9;scout", never + "try 1 if 1=1");
         c.day();
         due("the twelfth holds", c.scout(0, 2), 1);
-        FailBadge d = ruled("camp 0 0;kind 9;scout", "try 0 if 1=1;try 1");
+        FailBadge d = Checks.company("camp 0 0;kind 9;scout", "try 0 if 1=1;try 1");
         d.day();
         due("the first that holds, though it is 0", d.scout(0, 2), 0);
     }
@@ -93,7 +80,7 @@ public final class EdgeTest {
     }
 
     private static int triesIf(String test) {
-        FailBadge b = ruled("camp 0 0;kind 9;scout", "try 1 if " + test);
+        FailBadge b = Checks.company("camp 0 0;kind 9;scout", "try 1 if " + test);
         b.day();
         return b.scout(0, 2);
     }
@@ -103,12 +90,12 @@ public final class EdgeTest {
         // Scout 0 can all, each other one but the kind below their own number.
         String camp = six + ";can 0 0 1;can 0 1 1;can 0 2 1;can 0 3 1;can 0 4 1;can 0 5 1"
                 + ";can 1 0 1;can 2 1 1;can 3 2 1;can 4 3 1;can 5 4 1";
-        due("match", told(camp).match(-1), 6);
-        due("match", told(camp).match(0), 5);
+        due("match", Checks.company(camp).match(-1), 6);
+        due("match", Checks.company(camp).match(0), 5);
         for (int scout = 1; scout < 6; scout++) {
-            due("match of " + scout, told(camp).match(scout), scout - 1);
+            due("match of " + scout, Checks.company(camp).match(scout), scout - 1);
         }
-        FailBadge b = told(six + ";can 0 0 1;can 0 1 1;can 1 0 1;can 2 1 1;can 2 2 1"
+        FailBadge b = Checks.company(six + ";can 0 0 1;can 0 1 1;can 1 0 1;can 2 1 1;can 2 2 1"
                 + ";can 3 0 1;can 3 2 1;can 3 3 1");
         due("match", b.match(3), 3);
         due("match", b.match(2), 2);
@@ -117,7 +104,7 @@ public final class EdgeTest {
         due("match", b.match(4), -1);
         due("match", b.match(5), -1);
         due("match", b.match(-1), 4);
-        FailBadge c = told(six + ";can 0 5 1;can 3 5 1;can 5 5 1");
+        FailBadge c = Checks.company(six + ";can 0 5 1;can 3 5 1;can 5 5 1");
         due("match", c.match(0), -1);
         due("match", c.match(3), -1);
         due("match", c.match(5), 5);
@@ -127,7 +114,7 @@ public final class EdgeTest {
     }
 
     private static void matchedAnew() {
-        FailBadge b = told("camp 5 0;kind 5;scout");
+        FailBadge b = Checks.company("camp 5 0;kind 5;scout");
         due("can't", b.match(0), -1);
         b.attempt(0, 0);
         due("learnt", b.match(0), 0);
@@ -136,7 +123,7 @@ public final class EdgeTest {
     }
 
     private static void coverOfFewer() {
-        FailBadge b = told("camp 0 0;kind 1;scout;scout;can 1 0 1");
+        FailBadge b = Checks.company("camp 0 0;kind 1;scout;scout;can 1 0 1");
         due("scout 1", b.cover(1), 0b10);
         Checks.camp(b, "camp 0 0;kind 1;scout");
         due("nobody now", b.cover(1), 0);
@@ -145,7 +132,7 @@ public final class EdgeTest {
     }
 
     private static void rowOfSixKinds() {
-        FailBadge b = told("camp 0 0" + ";kind 9".repeat(6) + ";scout");
+        FailBadge b = Checks.company("camp 0 0" + ";kind 9".repeat(6) + ";scout");
         due("row", b.row(0, 4, 0), 4);
         for (int day = 1; day <= 4; day++) {
             due("row", b.row(0, 4, day), day - 1);
@@ -162,7 +149,7 @@ public final class EdgeTest {
 
     private static void restsByDays() {
         // Kind 0 fails on days of calm 0 and comes off on those of calm 9; kind 1 always fails.
-        FailBadge b = told("camp 0 0;calm 0;calm 9;kind 5;kind 20;scout;scout");
+        FailBadge b = Checks.company("camp 0 0;calm 0;calm 9;kind 5;kind 20;scout;scout");
         due("either, on day 0 alone", b.rests(0, 1, 1, 0), 4);
         due("kind 0 would be lost", b.rests(0, 1, 2, 0), 1);
         due("kind 1", b.rests(0, 1, 2, 1), 1);
@@ -171,7 +158,7 @@ public final class EdgeTest {
         due("kind 1", b.rests(0, 1, 3, 1), 1);
         b.day();
         due("from day 1 on", b.rests(0, 1, 1, 0), 1);
-        FailBadge c = told("camp 5 0;kind 10;kind 30;scout;scout;can 1 1 20");
+        FailBadge c = Checks.company("camp 5 0;kind 10;kind 30;scout;scout;can 1 1 20");
         due("nobody has learnt enough", c.rests(0, 1, 2, 0), 4);
         due("scout 0 has learnt kind 0, scout 1 both", c.rests(0, 1, 3, 0), 2);
         due("scout 0", c.rests(0, 1, 3, 1), 1);
@@ -180,12 +167,12 @@ public final class EdgeTest {
 
     /** What one call asks for (LEARN, KINDS left out, drawn CALM) does not reach the next one. */
     private static void whatWasAskedIsForgotten() {
-        FailBadge b = ruled("camp 1 0;kind 5;kind 0;scout", "try kind + 1");
+        FailBadge b = Checks.company("camp 1 0;kind 5;kind 0;scout", "try kind + 1");
         for (int n = 1; n <= 60; n++) {
             due("left out", b.leftOut(1 + n % 30, 1), n % 30 < 5 ? 0b10 : 0b11);
             due("kind 1 comes off", b.ahead(0, 1, 2), 1);
         }
-        FailBadge c = ruled("camp 1 0;kind 5;scout", "try 1");
+        FailBadge c = Checks.company("camp 1 0;kind 5;scout", "try 1");
         for (int n = 1; n <= 60; n++) {
             c.camps(1, n, 100, 0);
             due("calm is 0 again", c.ahead(0, 1, 2), 0);
@@ -196,12 +183,12 @@ public final class EdgeTest {
     }
 
     private static void tenNotes() {
-        FailBadge b = told("camp 1 0;kind 30;scout");
+        FailBadge b = Checks.company("camp 1 0;kind 30;scout");
         for (int i = 0; i < 10; i++) {
             due("note", b.note(60 - 6 * i, 0, 0, 1), i + 1);
         }
         due("all so", b.ruled(0), 1);
-        FailBadge c = told("camp 1 0;kind 30;scout");
+        FailBadge c = Checks.company("camp 1 0;kind 30;scout");
         for (int i = 0; i < 10; i++) {
             c.note(i, 0, 0, i < 9 ? 1 : 0);
         }

@@ -20,14 +20,8 @@ public final class NotesTest {
         CHECKS.due(call, got, want);
     }
 
-    private static FailBadge told(String camp) {
-        FailBadge b = new FailBadge();
-        due("camp", Math.min(0, Checks.camp(b, camp)), 0);
-        return b;
-    }
-
     private static void note() {
-        FailBadge b = told(ActsTest.TWO);
+        FailBadge b = Checks.company(ActsTest.TWO);
         due("n 61", b.note(61, 0, 0, 0), -2);
         due("n -2", b.note(-2, 0, 0, 0), -2);
         due("scout 2", b.note(0, 2, 0, 0), -2);
@@ -50,7 +44,7 @@ public final class NotesTest {
 
     /** By none both try kind 1 on day 0; by the rules kinds 0, 2 and 1. */
     private static FailBadge four() {
-        FailBadge b = told("camp 1 0;kind 10;kind 20;kind 10;scout;scout;can 1 2 10");
+        FailBadge b = Checks.company("camp 1 0;kind 10;kind 20;kind 10;scout;scout;can 1 2 10");
         Checks.rule(b, "try 1 if kind = 0");
         Checks.rule(b, "try 1 if kind = 2");
         Checks.rule(b, "try 1 if kind = 1 or scout = 1");
@@ -96,7 +90,7 @@ public final class NotesTest {
         b.note(10, 0, 2, 0);
         due("lost on day 10", b.ruled(0), 1);
         due("lost on day 10", b.ruled(1), 1);
-        FailBadge first = told("camp 1 0;kind 5;scout");
+        FailBadge first = Checks.company("camp 1 0;kind 5;scout");
         first.note(0, 0, 0, 0);
         due("has it behind day 0", first.ruled(0), 0);
         due("has it behind day 0", first.ruled(1), -2);
@@ -107,7 +101,7 @@ public final class NotesTest {
         due("rule 0 never tries", first.ruled(0), 1);
         first.note(-1, 0, 0, 0);
         due("these part by day 0", first.look(0, 1), 1);
-        FailBadge last = told("camp 1 0;kind 5;scout");
+        FailBadge last = Checks.company("camp 1 0;kind 5;scout");
         Checks.rule(last, "try 0");
         Checks.rule(last, "try 1 if day = 60");
         Checks.rule(last, "try 1 if day = 61");
@@ -149,7 +143,7 @@ public final class NotesTest {
 
     private static void camps() {
         // One always tries kind 0: with calm 9 alone it comes off.
-        FailBadge b = told("camp 0 9;kind 9;scout");
+        FailBadge b = Checks.company("camp 0 9;kind 9;scout");
         Checks.rule(b, "try 1");
         b.force(0);
         due("no draws", b.camps(10, 60, 0, 0), 600);
@@ -189,7 +183,7 @@ public final class NotesTest {
                     }
                     badges += has ? 1 : 0;
                 }
-                FailBadge b = told("camp 0 0;calm 9;calm 2;kind 5;scout");
+                FailBadge b = Checks.company("camp 0 0;calm 9;calm 2;kind 5;scout");
                 Checks.rule(b, "try 1 + calm + next");
                 b.force(0);
                 b.seed(seed);
@@ -199,7 +193,7 @@ public final class NotesTest {
             }
         }
         // The word calm is what was drawn, next is as told.
-        FailBadge c = told("camp 0 0;kind 5;scout");
+        FailBadge c = Checks.company("camp 0 0;kind 5;scout");
         Checks.rule(c, "try 1 if calm >= 5");
         Checks.rule(c, "try 1 if next > 0");
         c.force(0);
@@ -210,7 +204,7 @@ public final class NotesTest {
     }
 
     private static void count() {
-        FailBadge b = told(ActsTest.TWO);
+        FailBadge b = Checks.company(ActsTest.TWO);
         Checks.rule(b, "try 1 if 1 = 2");
         Checks.rule(b, "try 1");
         b.day();
@@ -228,7 +222,7 @@ public final class NotesTest {
     }
 
     private static void images() {
-        FailBadge b = told(ActsTest.TWO);
+        FailBadge b = Checks.company(ActsTest.TWO);
         Checks.rule(b, "try 1 if 1 = 2");
         b.force(0);
         b.day();

@@ -89,6 +89,16 @@ final class Sentences {
         due("all is as it was behind " + call, Checks.everything(badge).equals(before) ? 1 : 0, 1);
     }
 
+    /** A company to which something of all sorts has happened: a RULE, ACTS, a NOTE, x. */
+    static FailBadge busyCompany() {
+        FailBadge b = Checks.company("camp 1 2;calm 3;calm 4;kind 9;kind 2;scout;scout", "try hard");
+        b.day();
+        b.attempt(1, 1);
+        b.note(0, 0, 0, 1);
+        b.seed(77);
+        return b;
+    }
+
     void close() {
         endOfQuote();
         int at = 0;

@@ -282,15 +282,6 @@ final class SentencesOfNotes {
         say.due("without a camp", new FailBadge().camps(1, 1, 0, 0), -1);
     }
 
-    private static FailBadge busy() {
-        FailBadge b = Checks.company("camp 1 2;calm 3;calm 4;kind 9;kind 2;scout;scout", "try hard");
-        b.day();
-        b.attempt(1, 1);
-        b.note(0, 0, 0, 1);
-        b.seed(77);
-        return b;
-    }
-
     private void imagesOfTerms() {
         say.terms("IMAGES 0 to 3");
         FailBadge four = Checks.company(ONE);
@@ -305,7 +296,7 @@ final class SentencesOfNotes {
         }
 
         say.terms("all but the TAPE and the RULES, as it is (the RULE IN FORCE, too)");
-        FailBadge b = busy();
+        FailBadge b = Sentences.busyCompany();
         b.image(0);
         b.undo();
         b.undo();
@@ -342,7 +333,7 @@ final class SentencesOfNotes {
         say.due("rule 0", noted.ruled(1), 0);
 
         say.terms("gone back to, it is as it was (these stay; nothing can be UNDONE then).");
-        FailBadge c = busy();
+        FailBadge c = Sentences.busyCompany();
         c.image(1);
         c.day();
         c.day();
@@ -424,7 +415,7 @@ final class SentencesOfNotes {
                 + " 6: the RULE IN FORCE (NONE), 7: DAY, 8: CALM of this DAY, 9: BADGES of all,"
                 + " how many, 10: how often anything came off, 11: NOTES, 12: ACTS that can be"
                 + " UNDONE, 13: x, 14: bytes of the TAPE.");
-        FailBadge b = busy();
+        FailBadge b = Sentences.busyCompany();
         b.feed(1, 2, 3, 4, 5);
         b.attempt(0, 1);
         b.attempt(0, 1);
@@ -455,7 +446,7 @@ final class SentencesOfNotes {
 
     private void image() {
         say.promise(35, "An IMAGE is made: DAY");
-        FailBadge b = busy();
+        FailBadge b = Sentences.busyCompany();
         String before = Checks.everything(b);
         say.refused(b, before, "image 0", b.image(0), 1);
         say.refused(b, before, "image 3", b.image(3), 1);
@@ -473,7 +464,7 @@ final class SentencesOfNotes {
 
     private void back() {
         say.promise(36, "All is as in an IMAGE: DAY");
-        FailBadge b = busy();
+        FailBadge b = Sentences.busyCompany();
         b.image(2);
         b.day();
         b.day();

@@ -779,18 +779,9 @@ final class SentencesOfTexts {
         say.due("what was cut off does not come back", b.end(8), -1);
     }
 
-    private static FailBadge busy() {
-        FailBadge b = Checks.company("camp 1 2;calm 3;calm 4;kind 9;kind 2;scout;scout", "try hard");
-        b.day();
-        b.attempt(1, 1);
-        b.note(0, 0, 0, 1);
-        b.seed(77);
-        return b;
-    }
-
     private void camp() {
         say.promise(4, "The TAPE, which is empty then, is the CAMP in place of the one there was");
-        FailBadge b = busy();
+        FailBadge b = Sentences.busyCompany();
         say.due("camp", Checks.camp(b, "camp 4 5;kind 30;scout;can 0 0 6"), 1);
         int[] want = {4, 5, 0, 1, 1, 1, 0, 0, 5, 0, 0, 0, 0, 77, 0};
         for (int what = 0; what < want.length; what++) {
@@ -801,7 +792,7 @@ final class SentencesOfTexts {
         say.due("no second kind", b.hard(1), -1);
 
         say.promise(4, "no NOTES, nothing to be UNDONE; the RULE IN FORCE and x stay");
-        FailBadge c = busy();
+        FailBadge c = Sentences.busyCompany();
         say.due("notes", c.count(11), 1);
         say.due("acts", c.count(12), 2);
         Checks.camp(c, "camp 4 5");
@@ -818,7 +809,7 @@ final class SentencesOfTexts {
         }
 
         say.promise(4, "-2 - its FAULT, and all stays");
-        FailBadge d = busy();
+        FailBadge d = Sentences.busyCompany();
         String before = Checks.everything(d);
         say.refused(d, before, "nothing told", d.camp(), -3);
         for (String text : new String[] {"x", "camp 0 0;scout;kind 31", "camp 0 0;", "try 1"}) {
@@ -840,7 +831,7 @@ final class SentencesOfTexts {
         }
 
         say.promise(5, "-2 - its FAULT");
-        FailBadge c = busy();
+        FailBadge c = Sentences.busyCompany();
         String before = Checks.everything(c);
         say.refused(c, before, "nothing told", c.rule(), -3);
         say.refused(c, before, "try 1;", Checks.rule(c, "try 1;"), Checks.fault(6, 0));
