@@ -282,6 +282,8 @@ final class SentencesOfAsks {
         matched(b, 0);
         b.day();
         matched(b, -1);
+        b.undo();
+        say.due("now, though how many was not asked", b.match(0), 0);
 
         say.promise(20, "-2: there is none such");
         for (int scout = 1; scout <= 5; scout++) {
