@@ -19,7 +19,7 @@ public final class FailBadge {
     private static final int MOST_PENCE = 9999;
 
     private final Tape tape = new Tape();
-    private final RuleReader ruleReader = new RuleReader(tape);
+    private final RuleReader ruleReader = new RuleReader();
     private final Rule[] rules = new Rule[MOST_RULES];
     private int ruleCount = 0;
     private final Moment now = new Moment();
@@ -71,7 +71,7 @@ public final class FailBadge {
         if (ruleCount >= MOST_RULES) {
             return NONE;
         }
-        boolean isRight = ruleReader.read();
+        boolean isRight = ruleReader.read(tape);
         tape.length = 0;
         if (!isRight) {
             return NO_SUCH - tape.fault;
@@ -781,7 +781,6 @@ public final class FailBadge {
         private static final String NOT = "not ";
         private static final String AND_OR = "and or ";
 
-        private final Tape tape;
         private int size = 0;
         private int clauses = 0;
         private int counted = 0;
@@ -790,16 +789,12 @@ public final class FailBadge {
         private final int[] sums = new int[Rule.MOST_CLAUSES + 1];
         private final int[] tests = new int[Rule.MOST_CLAUSES];
 
-        RuleReader(Tape tape) {
-            this.tape = tape;
-        }
-
         Rule made() {
             return new Rule(clauses, Arrays.copyOf(codes, size), sums.clone(), tests.clone());
         }
 
         /** Reads the tape; false if it has a fault. */
-        boolean read() {
+        boolean read(Tape tape) {
             size = 0;
             clauses = 0;
             counted = 0;
@@ -813,13 +808,13 @@ public final class FailBadge {
                 }
                 tape.advance();
                 sums[clause] = size;
-                if (!readSum()) {
+                if (!readSum(tape)) {
                     return false;
                 }
                 tests[clause] = size;
                 if (tape.among(IF) != NONE) {
                     tape.advance();
-                    if (!readTest(0)) {
+                    if (!readTest(tape, 0)) {
                         return false;
                     }
                 }
@@ -837,11 +832,11 @@ public final class FailBadge {
         }
 
         /** FACTS joined by and, and these by or: and binds first. */
-        private boolean readTest(int deep) {
+        private boolean readTest(Tape tape, int deep) {
             boolean isAnd = false;
             boolean isOr = false;
             for (int facts = 0; facts < Tape.MOST; facts++) {
-                if (!readFact(deep)) {
+                if (!readFact(tape, deep)) {
                     return false;
                 }
                 if (isAnd) {
@@ -863,21 +858,21 @@ public final class FailBadge {
             return false;
         }
 
-        private boolean readFact(int deep) {
+        private boolean readFact(Tape tape, int deep) {
             boolean isNot = tape.among(NOT) != NONE;
             if (!isNot && tape.sort != '[') {
-                return readComparison();
+                return readComparison(tape);
             }
             if (deep >= MOST_DEEP) {
                 return tape.refuse(Tape.TOO_DEEP);
             }
             tape.advance();
             if (isNot) {
-                boolean isRight = readFact(deep + 1);
+                boolean isRight = readFact(tape, deep + 1);
                 put(Rule.NOT);
                 return isRight;
             }
-            if (!readTest(deep + 1)) {
+            if (!readTest(tape, deep + 1)) {
                 return false;
             }
             if (tape.sort != ']') {
@@ -887,8 +882,8 @@ public final class FailBadge {
             return true;
         }
 
-        private boolean readComparison() {
-            if (!readSum()) {
+        private boolean readComparison(Tape tape) {
+            if (!readSum(tape)) {
                 return false;
             }
             int sign = codeOf(tape.sort);
@@ -900,17 +895,17 @@ public final class FailBadge {
             }
             counted++;
             tape.advance();
-            boolean isRight = readSum();
+            boolean isRight = readSum(tape);
             put(sign);
             return isRight;
         }
 
         /** VALUES joined by * / %, and these by + -: the former bind first. */
-        private boolean readSum() {
+        private boolean readSum(Tape tape) {
             int times = NONE;
             int plus = NONE;
             for (int values = 0; values < Tape.MOST; values++) {
-                if (!readValue()) {
+                if (!readValue(tape)) {
                     return false;
                 }
                 if (times != NONE) {
@@ -932,7 +927,7 @@ public final class FailBadge {
             return false;
         }
 
-        private boolean readValue() {
+        private boolean readValue(Tape tape) {
             int code = tape.among(Rule.WORDS);
             if (tape.sort == Tape.NUMBER) {
                 if (tape.number == NONE) {

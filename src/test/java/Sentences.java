@@ -1,11 +1,12 @@
 import java.io.IOException;
 import java.nio.file.Files;
 import java.nio.file.Path;
+import java.util.List;
 
 /**
  * The document's sentences, each with a test of its own. What is quoted must stand in the document
- * where it is said to stand, something must be asked for each quote, and no word of the terms and
- * of promises 1 to 36 may be left that nothing quotes.
+ * where it is said to stand, something must be asked for each quote, and no word of the document may
+ * be left that nothing quotes.
  */
 final class Sentences {
     private static final Path DOCUMENT = Path.of("../shared/DOC.md");
@@ -20,14 +21,12 @@ final class Sentences {
     Sentences() throws IOException {
         document = Files.readString(DOCUMENT);
         isQuoted = new boolean[document.length()];
-        int from = document.indexOf("\n## Terms\n");
-        int to = document.indexOf("\n## Not promised\n");
-        checks.due("the document has terms and promises", from >= 0 && to > from ? 1 : 0, 1);
-        pass(0, from);
-        pass(to, document.length());
-        for (String sign : new String[] {"## Terms", "```text", "==== II.", "==== III."}) {
-            for (int at = from; at >= 0; at = document.indexOf(sign, at + 1)) {
-                pass(at, document.startsWith(sign, at) ? at + sign.length() : at);
+        for (String head : new String[] {"# FailBadge\n", "## What it is\n", "## The public face\n",
+            "```java\n", "## Terms\n", "```text\n", "==== I.\n", "==== II.", "==== III.",
+            "## Not promised\n"}) {
+            checks.due("the document has " + head.strip(), document.contains(head) ? 1 : 0, 1);
+            for (int at = document.indexOf(head); at >= 0; at = document.indexOf(head, at + 1)) {
+                pass(at, at + head.length());
             }
         }
         for (int promise = 1; promise <= PROMISES; promise++) {
@@ -43,10 +42,32 @@ final class Sentences {
         }
     }
 
+    /** What follows tests a sentence of what stands ahead of the face. */
+    void whatItIs(String words) {
+        begin("what it is: ", words, 0, document.indexOf("\n## The public face\n"));
+    }
+
+    /** What follows tests a line of the face. */
+    void face(String words) {
+        begin("face: ", words, document.indexOf("\n## The public face\n"),
+                document.indexOf("\n## Terms\n"));
+    }
+
+    List<String> linesOfFace() {
+        int from = document.indexOf("```java\n") + 8;
+        String lines = document.substring(from, document.indexOf("```", from));
+        return lines.lines().map(String::strip).filter(line -> line.length() > 1).toList();
+    }
+
     /** What follows tests a sentence of the terms. */
     void terms(String words) {
         begin("terms: ", words, document.indexOf("\n## Terms\n"),
                 document.indexOf("\n## Promise 1:"));
+    }
+
+    /** What follows tests a sentence of what is not promised. */
+    void notPromised(String words) {
+        begin("not promised: ", words, document.indexOf("\n## Not promised\n"), document.length());
     }
 
     /** What follows tests a sentence of a promise. */
